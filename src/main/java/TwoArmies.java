@@ -28,15 +28,9 @@ public final class TwoArmies {
     /** Of FIGURE and the kinds 1 .. 5 as they are over one another: the one above. */
     private static final int[] ABOVE = {NONE, 0, 1, 1, 0, 0};
 
-    /**
-     * Figures worth plotting with. Whether somebody kneels is the same for all kinds but KNEEL,
-     * and MARCH is the first of them, so BACK, DOUBLE and TURN are never the first of the best.
-     */
-    private static final int[] PLOTTED = {1, 2, 3, 4, 5, 6, 7, 8, 9, 41, 42, 43, 44, 45, 46, 47, 48, 49};
-
     private final Text text = new Text();
     private final Plan told = new Plan();
-    private final Reader reader = new Reader();
+    private final Reader reader = new Reader(text);
     private final Day day = new Day();
     private final Day trial = new Day();
     private final Past past = new Past();
@@ -65,11 +59,11 @@ public final class TwoArmies {
     }
 
     public int fault() {
-        return reader.readAll(text, told);
+        return reader.readAll(told);
     }
 
     public int parade() {
-        if (reader.readAll(text, told) != NONE) {
+        if (reader.readAll(told) != NONE) {
             return NOT;
         }
         told.copyFrom(reader.plan);
@@ -232,16 +226,18 @@ public final class TwoArmies {
         if (day.drills[army].size > MOST_FIGURES - 2) {
             return NOT;
         }
+        // An army that begins to kneel kneels itself, and BACK, DOUBLE, TURN take time as MARCH does:
+        // the first of the best twos are always of MARCH.
         int most = NONE;
         int bestFirst = NONE;
         int bestSecond = NONE;
-        for (int one = 0; one < PLOTTED.length; one++) {
-            for (int two = 0; two < PLOTTED.length; two++) {
-                int gain = gainOf(army, n, PLOTTED[one], PLOTTED[two]);
+        for (int one = 1; one <= MOST_MINUTES; one++) {
+            for (int two = 1; two <= MOST_MINUTES; two++) {
+                int gain = gainOfMarches(army, n, one, two);
                 if (gain > most) {
                     most = gain;
-                    bestFirst = PLOTTED[one];
-                    bestSecond = PLOTTED[two];
+                    bestFirst = codeOf(MARCH, one);
+                    bestSecond = codeOf(MARCH, two);
                 }
             }
         }
@@ -294,7 +290,7 @@ public final class TwoArmies {
         for (int kind = 0; kind < KINDS; kind++) {
             for (int minutes = 1; minutes <= MOST_MINUTES; minutes++) {
                 if (wouldExplain(army, kind, minutes)) {
-                    firstFitting = fitting == 0 ? 10 * kind + minutes : firstFitting;
+                    firstFitting = fitting == 0 ? codeOf(kind, minutes) : firstFitting;
                     fitting++;
                 }
             }
@@ -362,6 +358,10 @@ public final class TwoArmies {
         return kind >= 0 && kind < KINDS && minutes >= 1 && minutes <= MOST_MINUTES;
     }
 
+    private static int codeOf(int kind, int minutes) {
+        return 10 * kind + minutes;
+    }
+
     /** Whether a kind (as they are over one another) is another one or stands under it. */
     private static boolean isUnder(int kind, int above) {
         int at = kind;
@@ -374,11 +374,11 @@ public final class TwoArmies {
         return false;
     }
 
-    /** How much the other army kneels in n minutes by two figures more; NONE if the army itself does. */
-    private int gainOf(int army, int n, int first, int second) {
+    /** How much the other army kneels in n minutes by two marches more; NONE if the army itself does. */
+    private int gainOfMarches(int army, int n, int one, int two) {
         trial.copyFrom(day);
-        trial.drills[army].append(first / 10, first % 10);
-        trial.drills[army].append(second / 10, second % 10);
+        trial.drills[army].append(MARCH, one);
+        trial.drills[army].append(MARCH, two);
         int gain = 0;
         for (int i = 0; i < n; i++) {
             int kneeler = trial.goMinute();
@@ -472,16 +472,16 @@ public final class TwoArmies {
 
     /** All that minutes, orders and winding can change, at one moment. */
     private static final class Day {
-        private int width = SIDE_AT_FIRST;
-        private int height = SIDE_AT_FIRST;
-        private int hourLength = HOUR_AT_FIRST;
-        private int hour = 0;
-        private int minute = 0;
-        private int row = 0;
-        private int column = 0;
-        private int looks = 0;
-        private int begunKind = NONE;
-        private int minutesLeft = 0;
+        private int width;
+        private int height;
+        private int hourLength;
+        private int hour;
+        private int minute;
+        private int row;
+        private int column;
+        private int looks;
+        private int begunKind;
+        private int minutesLeft;
         private final int[] mudOn = new int[MOST_CELLS];
         private final int[] piledUp = new int[ROWS_ON.length];
         private final int[] knelt = new int[ARMIES];
@@ -713,9 +713,9 @@ public final class TwoArmies {
         }
     }
 
-    /** A row of letters, and its tokens. */
+    /** A row of letters. */
     private static final class Text {
-        private static final int SMALL = 0, DIGIT = 1, OTHER = 2;
+        private static final int BLANK = 0, SMALL = 1, DIGIT = 2, OTHER = 3;
 
         private final int[] letters = new int[MOST_LETTERS];
         private int length = 0;
@@ -729,30 +729,8 @@ public final class TwoArmies {
             return true;
         }
 
-        /** Where the first token at a place or behind it begins; the length, if there is none. */
-        int tokenStart(int place) {
-            int start = place;
-            while (start < length && letters[start] == ' ') {
-                start++;
-            }
-            return start;
-        }
-
-        /** Behind the token that begins at a place. */
-        int tokenEnd(int start) {
-            if (start >= length) {
-                return length;
-            }
-            int sort = sortOf(letters[start]);
-            int end = start + 1;
-            while (sort != OTHER && end < length && sortOf(letters[end]) == sort) {
-                end++;
-            }
-            return end;
-        }
-
         boolean holds(String word, int start, int end) {
-            if (end - start != word.length()) {
+            if (start < 0 || end > length || end - start != word.length()) {
                 return false;
             }
             for (int i = 0; i < word.length(); i++) {
@@ -765,12 +743,12 @@ public final class TwoArmies {
 
         /** The number that a token is, of one or two digits; NONE. */
         int numberIn(int start, int end) {
-            if (start >= end || end - start > 2) {
+            if (start < 0 || start >= end || end > length || end - start > 2) {
                 return NONE;
             }
             int number = 0;
             for (int i = start; i < end; i++) {
-                if (sortOf(letters[i]) != DIGIT) {
+                if (sortAt(i) != DIGIT) {
                     return NONE;
                 }
                 number = 10 * number + letters[i] - '0';
@@ -778,26 +756,36 @@ public final class TwoArmies {
             return number;
         }
 
-        private static int sortOf(int letter) {
+        int sortAt(int place) {
+            if (place < 0 || place >= length) {
+                return OTHER;
+            }
+            int letter = letters[place];
             if (letter >= 'a' && letter <= 'z') {
                 return SMALL;
             }
-            return letter >= '0' && letter <= '9' ? DIGIT : OTHER;
+            if (letter >= '0' && letter <= '9') {
+                return DIGIT;
+            }
+            return letter == ' ' ? BLANK : OTHER;
         }
     }
 
     /** Reads a text to its first fault, and does its clauses on a plan of its own. */
     private static final class Reader {
+        private final Text text;
         private final Plan plan = new Plan();
-        private Text text = new Text();
         private int start = 0;
         private int end = 0;
         private int faultAt = NONE;
         private int clauses = 0;
 
+        Reader(Text text) {
+            this.text = text;
+        }
+
         /** The place of the first fault; NONE: then the plan is as it is told by the text. */
-        int readAll(Text newText, Plan told) {
-            text = newText;
+        int readAll(Plan told) {
             plan.copyFrom(told);
             end = 0;
             faultAt = NONE;
@@ -915,9 +903,18 @@ public final class TwoArmies {
             return number;
         }
 
+        /** At the end of the text start and end are its length. */
         private void nextToken() {
-            start = text.tokenStart(end);
-            end = text.tokenEnd(start);
+            start = end;
+            while (start < text.length && text.sortAt(start) == Text.BLANK) {
+                start++;
+            }
+            end = Math.min(start + 1, text.length);
+            int sort = text.sortAt(start);
+            boolean isRow = sort == Text.SMALL || sort == Text.DIGIT;
+            while (isRow && end < text.length && text.sortAt(end) == sort) {
+                end++;
+            }
         }
     }
 }
