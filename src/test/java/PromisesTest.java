@@ -210,6 +210,12 @@ public final class PromisesTest {
         fault(clauses + ";rest 1", clauses.length());
         fault(clauses + ";", clauses.length());
         fault(clauses + " 1", clauses.length() + 1);
+        fault(" ".repeat(160), 160);
+        fault("rest" + " ".repeat(156), 160);
+        fault("a".repeat(160), 0);
+        fault(" ".repeat(154) + "rest 1", NONE);
+        fault(" ".repeat(155) + "rest 1", 160);
+        fault("rest 1" + " ".repeat(153) + ";", 160);
     }
 
     private static void parade() {
