@@ -28,6 +28,31 @@ final class Checks {
         }
     }
 
+    /** A call, as a test hands it to a helper. */
+    interface Call {
+        int on(TwoArmies x);
+    }
+
+    /** All that can be asked of a day without changing it, in some 100 calls. */
+    static String stateOf(TwoArmies x) {
+        StringBuilder state = new StringBuilder();
+        for (int what = 0; what <= 16; what++) {
+            state.append(x.count(what)).append(' ');
+        }
+        int cells = x.count(0) * x.count(1);
+        for (int cell = 0; cell < cells; cell++) {
+            state.append(x.mud(cell)).append(' ');
+        }
+        for (int army = 0; army < 2; army++) {
+            int figures = x.army(army, 0);
+            state.append("| ").append(figures).append(' ').append(x.army(army, 1)).append(' ');
+            for (int k = 0; k < figures; k++) {
+                state.append(x.figure(army, k, 0)).append(x.figure(army, k, 1)).append(' ');
+            }
+        }
+        return state.toString();
+    }
+
     static void write(TwoArmies x, String text) {
         for (int i = 0; i < text.length(); i++) {
             x.write(text.charAt(i));
