@@ -228,6 +228,10 @@ public final class ForetoldBoundsTest {
         c.due("it kneels itself in the 41st", at(own + "4;kneel 0 1", 0).plot(0, 40, 0), 0);
         c.due("it kneels itself in the 40th", at(own + "3;kneel 0 1", 0).plot(0, 40, 0), NONE);
         c.due("not in 39", at(own + "3;kneel 0 1", 0).plot(0, 39, 0), 0);
+        // a turn up to the 2nd, then marches of 9 up to the 11th and the 20th: army 1 kneels from the 26th on
+        for (int what = 0; what < 3; what++) {
+            c.due("the longest twos", at("hour 5;turn 0 2;kneel 1 9", 0).plot(0, 30, what), pick(what, 5, 9, 9));
+        }
         String soon = "hour 2;kneel 1 1";
         c.due("the first minute", at(soon, 2).plot(0, 1, 0), 1);
         c.due("the second", at(soon, 1).plot(0, 1, 0), 0);

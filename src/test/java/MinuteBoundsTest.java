@@ -26,6 +26,9 @@ public final class MinuteBoundsTest {
         whatCannotBeUndone();
         keptTwo();
         keptSinceTheLastText();
+        behindATextAllIsAnew();
+        kindsOverOneAnother();
+        asOfNoFigure();
         hoursAbove999();
         hoursAbove999ByWinding();
         backFromAbove999();
@@ -457,6 +460,66 @@ public final class MinuteBoundsTest {
         c.due("keep(1)", x.keep(1), 0);
         c.due("the other", x.back(0), NOT);
         c.due("back(1)", x.back(1), 0);
+    }
+
+    private static void behindATextAllIsAnew() {
+        c.part("behind a text all is anew");
+        String told = "ground 3 3;hour 5;stand 4 1;march 0 2;kneel 0 4;kneel 1 1";
+        for (int gone = 1; gone <= 12; gone++) {
+            TwoArmies x = Checks.told(told);
+            x.pass(gone);
+            x.order(0, 3, 3);
+            x.wind(1);
+            x.keep(0);
+            x.keep(1);
+            x.seen(3, 3);
+            Checks.write(x, "turn 1 2");
+            c.due("parade behind " + gone, x.parade(), 1);
+            c.isTrue("as told", Checks.stateOf(x).equals(Checks.stateOf(Checks.told(told + ";turn 1 2"))));
+            c.due("mud on the first cell", x.mud(0), 0);
+            c.due("nothing is kept", x.back(0), NOT);
+            c.due("nothing is kept", x.back(1), NOT);
+            c.due("nothing can be undone", x.undo(), NOT);
+            c.due("nothing is seen", x.forget(), 0);
+        }
+    }
+
+    private static void kindsOverOneAnother() {
+        c.part("kinds over one another");
+        int[][] due = {
+            {1, 1, NOT, NOT, NOT, NOT},
+            {1, 1, 1, NOT, NOT, NOT},
+            {2, 2, NOT, 2, NOT, NOT},
+            {0, NOT, NOT, NOT, 0, NOT},
+            {0, NOT, NOT, NOT, NOT, 0}};
+        for (int army = 0; army < 2; army++) {
+            for (int next = 0; next < 5; next++) {
+                for (int second = 0; second < 5; second++) {
+                    TwoArmies x = new TwoArmies();
+                    x.order(army, next, 9);
+                    x.order(army, second, 9);
+                    for (int as = 0; as <= 5; as++) {
+                        c.due(FIGURES[next] + " as " + as, x.as(army, as), due[next][as]);
+                        c.due("none as " + as, x.as(1 - army, as), NOT);
+                    }
+                    c.due("no such kind", x.as(army, 6), OUTSIDE);
+                    c.due("no such kind", x.as(army, -1), OUTSIDE);
+                }
+            }
+        }
+    }
+
+    private static void asOfNoFigure() {
+        c.part("as, of no figure");
+        TwoArmies x = Checks.told("double 0 9;kneel 0 1");
+        c.due("the next one", x.as(0, 3), 2);
+        x.pass(1);
+        c.due("not the one that is begun", x.as(0, 3), NOT);
+        c.due("the one behind it", x.as(0, 5), 0);
+        x.pass(9);
+        c.due("none is left", x.as(0, 0), NOT);
+        c.due("OUTSIDE ahead of NOT", x.as(0, 6), OUTSIDE);
+        c.due("UNKNOWN ahead of both", x.as(2, 6), UNKNOWN);
     }
 
     /** Hours of 2: 33 times 60 minutes are 990 hours. */
