@@ -1,35 +1,32 @@
 import java.io.IOException;
 import java.lang.management.ManagementFactory;
+import java.lang.reflect.Constructor;
 import java.lang.reflect.Field;
 import java.lang.reflect.Member;
 import java.lang.reflect.Method;
 import java.lang.reflect.Modifier;
 import java.nio.file.Files;
 import java.nio.file.Path;
-import java.util.Arrays;
-import java.util.List;
 import java.util.TreeSet;
 import java.util.regex.Matcher;
 import java.util.regex.Pattern;
 
-/** The class's face, the rules of LANGUAGE.md that can be seen from outside, and the room that calls take. */
+/** The class's face as the document writes it, and the room that calls take. */
 public final class FaceTest {
     private static final Path SOURCE = Path.of("src/main/java/TwoArmies.java");
-    private static final List<String> FACE = List.of(
-        "write 1", "erase 0", "fault 0", "parade 0", "mud 1", "figure 3", "army 2", "as 2", "pass 1", "order 3",
-        "wind 1", "undo 0", "keep 1", "back 1", "behind 2", "first 1", "plot 3", "seen 2", "forget 0", "wound 0",
-        "ordered 2", "inspected 2", "count 1");
-    private static final List<String> CONSTANTS = List.of("NONE", "UNKNOWN", "OUTSIDE", "NOT", "FULL");
-    private static final String FORBIDDEN =
-        "\\b(throw|throws|try|catch|synchronized|assert|import|package|Object|var|protected)\\b"
-        + "|->|::|@|Exact";
+    private static final Path DOCUMENT = Path.of("../shared/DOC.md");
+    private static final Pattern FACE = Pattern.compile("```java\n(.*?)```", Pattern.DOTALL);
+    private static final Pattern METHOD = Pattern.compile("public int (\\w+)\\(([^)]*)\\);");
+    private static final Pattern CONSTANT = Pattern.compile("([A-Z]+) = (-?\\d+)");
 
     private static final Checks c = new Checks();
 
-    public static void main(String[] args) throws IOException {
-        face();
-        constants();
-        source();
+    public static void main(String[] args) throws IOException, ReflectiveOperationException {
+        Matcher face = FACE.matcher(Files.readString(DOCUMENT));
+        c.isTrue("the document has a face", face.find());
+        methods(face.group(1));
+        constants(face.group(1));
+        words(face.group(1), Files.readString(SOURCE));
         room();
         c.finish();
     }
@@ -38,57 +35,59 @@ public final class FaceTest {
         return !Modifier.isPrivate(member.getModifiers()) && !member.isSynthetic();
     }
 
-    private static void face() {
-        c.part("face");
-        c.due("modifiers", TwoArmies.class.getModifiers(), Modifier.PUBLIC | Modifier.FINAL);
+    private static void methods(String face) throws NoSuchMethodException {
+        c.part("methods");
+        c.due("the class", TwoArmies.class.getModifiers(), Modifier.PUBLIC | Modifier.FINAL);
         c.due("constructors", TwoArmies.class.getDeclaredConstructors().length, 1);
-        TreeSet<String> seen = new TreeSet<>();
-        for (Method method : TwoArmies.class.getDeclaredMethods()) {
-            if (isSeenOutside(method)) {
-                seen.add(method.getName() + " " + method.getParameterCount());
-                c.due(method.getName(), method.getModifiers(), Modifier.PUBLIC);
-                c.isTrue(method.getName() + " answers int", method.getReturnType() == int.class);
+        Constructor<?> made = TwoArmies.class.getDeclaredConstructor();
+        c.due("the constructor", made.getModifiers(), Modifier.PUBLIC);
+        TreeSet<String> due = new TreeSet<>();
+        Matcher method = METHOD.matcher(face);
+        while (method.find()) {
+            due.add(method.group(1) + " " + (method.group(2).isEmpty() ? 0 : method.group(2).split(",").length));
+        }
+        TreeSet<String> there = new TreeSet<>();
+        for (Method seen : TwoArmies.class.getDeclaredMethods()) {
+            if (isSeenOutside(seen)) {
+                there.add(seen.getName() + " " + seen.getParameterCount());
+                c.due(seen.getName(), seen.getModifiers(), Modifier.PUBLIC);
+                c.isTrue(seen.getName() + " answers int", seen.getReturnType() == int.class);
+                for (Class<?> type : seen.getParameterTypes()) {
+                    c.isTrue(seen.getName() + " takes int", type == int.class);
+                }
             }
         }
-        c.isTrue("methods " + seen, seen.equals(new TreeSet<>(FACE)));
-        TreeSet<String> names = new TreeSet<>();
-        FACE.forEach(method -> names.add(method.split(" ")[0]));
-        for (Class<?> inside : TwoArmies.class.getDeclaredClasses()) {
-            c.isTrue(inside + " is static", Modifier.isStatic(inside.getModifiers()));
-            for (Method method : inside.getDeclaredMethods()) {
-                c.isTrue("no face name: " + method.getName(), !names.contains(method.getName()));
-            }
-            c.isTrue(inside + " has few fields", inside.getDeclaredFields().length <= 20);
-        }
+        c.due("calls of the document", due.size(), 23);
+        c.isTrue(due + " are there: " + there, due.equals(there));
     }
 
-    private static void constants() {
+    private static void constants(String face) throws ReflectiveOperationException {
         c.part("constants");
-        int shown = 0;
+        TreeSet<String> due = new TreeSet<>();
+        Matcher constant = CONSTANT.matcher(face);
+        while (constant.find()) {
+            due.add(constant.group(1) + " " + constant.group(2));
+        }
+        TreeSet<String> there = new TreeSet<>();
         for (Field field : TwoArmies.class.getDeclaredFields()) {
             if (isSeenOutside(field)) {
-                shown++;
-                c.isTrue(field.getName() + " is of the face", CONSTANTS.contains(field.getName()));
-            }
-            if (Modifier.isStatic(field.getModifiers())) {
-                c.isTrue(field.getName() + " is final", Modifier.isFinal(field.getModifiers()));
+                there.add(field.getName() + " " + field.getInt(null));
+                c.due(field.getName(), field.getModifiers(), Modifier.PUBLIC | Modifier.STATIC | Modifier.FINAL);
             }
         }
-        c.due("constants", shown, 5);
-        int[] values = {TwoArmies.NONE, TwoArmies.UNKNOWN, TwoArmies.OUTSIDE, TwoArmies.NOT, TwoArmies.FULL};
-        c.isTrue("their values", Arrays.equals(values, new int[] {-1, -2, -3, -4, -5}));
+        c.due("constants of the document", due.size(), 5);
+        c.isTrue(due + " are there: " + there, due.equals(there));
     }
 
-    private static void source() throws IOException {
-        c.part("language");
-        String code = Files.readString(SOURCE).replaceAll("(?s)/\\*.*?\\*/", "").replaceAll("//[^\n]*", "");
-        Matcher matcher = Pattern.compile(FORBIDDEN).matcher(code.replaceAll("\"[^\"\n]*\"", "\"\""));
-        while (matcher.find()) {
-            c.due("'" + matcher.group() + "' stands in the class", 1, 0);
+    /** The class says its face in the document's own words, the names of what a call takes too. */
+    private static void words(String face, String source) {
+        c.part("words");
+        for (String line : face.split("\n")) {
+            String words = line.strip().replaceAll("\\);$", ")");
+            if (words.startsWith("public")) {
+                c.isTrue("'" + words + "' stands in the class", source.contains(words));
+            }
         }
-        c.isTrue("there is code", code.contains("class TwoArmies"));
-        c.isTrue("all signs are plain", code.chars().allMatch(sign -> sign < 128));
-        c.isTrue("at most twelve classes", code.split("\\bclass \\w+ \\{").length - 1 <= 12);
     }
 
     /** No call makes an object, so that a run needs no more room than a new object does. */
@@ -123,6 +122,9 @@ public final class FaceTest {
         x.wound();
         x.ordered(0, 0);
         x.inspected(60, 3);
+        x.mud(0);
+        x.figure(0, 0, 1);
+        x.army(0, 1);
         x.count(9);
         x.as(0, 1);
         x.forget();
